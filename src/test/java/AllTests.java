@@ -1,0 +1,17 @@
+/** Runs every test of the project; ends with exit code 1, if an answer wasn't as due. */
+public final class AllTests {
+    private AllTests() { }
+
+    public static void main(String[] args) {
+        FaceTest.run();
+        BoxesTest.run();
+        RestingTest.run();
+        StandingTest.run();
+        DoorTest.run();
+        ThoughtTest.run();
+        TextTest.run();
+        ToldTest.run();
+        SheetTest.run();
+        if (!Check.report()) System.exit(1);
+    }
+}
