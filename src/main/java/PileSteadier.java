@@ -33,8 +33,8 @@ public final class PileSteadier {
     private final Pile image = new Pile();
     /** Where what would be is tried out, so that the true pile is never touched by a thought. */
     private final Pile thought = new Pile();
-    private final Balance balance = new Balance(pile);
-    private final Door door = new Door(pile, balance);
+    private final Balance balance = new Balance();
+    private final Door door = new Door();
     private final Tape tape = new Tape();
     private final Sheet[] sheets = new Sheet[SHEETS];
     private boolean imageKept = false;
@@ -79,7 +79,7 @@ public final class PileSteadier {
     public int weigh(int box, int n, int each) {
         if (!pile.has(box)) return BAD;
         long weight = (long) n * each;
-        if (weight > Integer.MAX_VALUE || weight < Integer.MIN_VALUE) return FULL;
+        if (weight != (int) weight) return FULL;
         if (!isWeight(weight)) return BAD;
         Box it = pile.boxes[box];
         int was = it.weight;
@@ -96,7 +96,7 @@ public final class PileSteadier {
     public int off(int box) {
         if (!pile.has(box)) return BAD;
         door.begin();
-        if ((door.freeIn(pile.there) & 1 << box) == 0) return STATE;
+        if ((door.freeIn(pile, pile.there) & 1 << box) == 0) return STATE;
         pile.there &= ~(1 << box);
         return Integer.bitCount(pile.there);
     }
@@ -167,8 +167,7 @@ public final class PileSteadier {
 
     public int fails(int what) {
         settle();
-        int failing = balance.failing(0, 0);
-        int fail = failing == 0 ? NONE : Integer.numberOfTrailingZeros(failing);
+        int fail = firstIn(balance.failing(0, 0));
         int cause = fail == NONE ? NONE : balance.heaviestOn(fail);
         int causes = 0, root = NONE, next = cause;
         for (int i = 0; i < BOXES && next != NONE; i++) {
@@ -205,7 +204,7 @@ public final class PileSteadier {
 
     public int free() {
         door.begin();
-        return door.freeIn(pile.there);
+        return door.freeIn(pile, pile.there);
     }
 
     public int way(int box) {
@@ -214,7 +213,7 @@ public final class PileSteadier {
 
     public int order(int k) {
         if (k < NONE || k >= Integer.bitCount(pile.there)) return OUTSIDE;
-        int orders = door.findOrders();
+        int orders = door.findOrders(pile);
         if (k == NONE) return orders;
         return orders == 0 ? NONE : door.first[k];
     }
@@ -299,7 +298,7 @@ public final class PileSteadier {
         int left = pile.there;
         for (int i = 0; i < told.size; i++) {
             int box = told.items[i];
-            boolean free = box >= 0 && box < BOXES && (door.freeIn(left) & 1 << box) != 0;
+            boolean free = box >= 0 && box < BOXES && (door.freeIn(pile, left) & 1 << box) != 0;
             if (!free) return what == 0 ? i : left;
             left &= ~(1 << box);
         }
@@ -308,7 +307,7 @@ public final class PileSteadier {
 
     public int film(int sheet) {
         if (!isSheet(sheet)) return BAD;
-        if (door.findOrders() == 0) return NONE;
+        if (door.findOrders(pile) == 0) return NONE;
         int many = Integer.bitCount(pile.there);
         sheets[sheet].become(BYTES, many);
         for (int i = 0; i < many; i++) sheets[sheet].items[i] = door.first[i];
@@ -481,6 +480,13 @@ public final class PileSteadier {
         }
         if (divisor == 0) return NO;
         return (part == 0 ? above : below) / divisor;
+    }
+
+    private static int firstIn(int set) {
+        for (int b = 0; b < BOXES; b++) {
+            if (isIn(b, set)) return b;
+        }
+        return NONE;
     }
 
     private static boolean isIn(int box, int set) {
@@ -710,11 +716,10 @@ public final class PileSteadier {
         /** Weights times places, in 20ths: of the own weight and of each part that comes from above. */
         private final long[] momentsX = new long[BOXES], momentsY = new long[BOXES];
         private final Polygon[] polygons = new Polygon[BOXES];
-        private Pile pile;
+        private Pile pile = new Pile();
         private int present = 0;
 
-        Balance(Pile first) {
-            pile = first;
+        Balance() {
             for (int b = 0; b < polygons.length; b++) polygons[b] = new Polygon();
         }
 
@@ -910,23 +915,17 @@ public final class PileSteadier {
     private static final class Door {
         private static final int UNKNOWN = -1;
 
-        private final Pile pile;
-        private final Balance balance;
+        private final Balance balance = new Balance();
         /** By the set of the boxes that are left: who fails then, who is free then, how many orders take all. */
         private final int[] failing = new int[SETS], free = new int[SETS], orders = new int[SETS];
         private final int[] first = new int[BOXES];
-
-        Door(Pile pile, Balance balance) {
-            this.pile = pile;
-            this.balance = balance;
-        }
 
         /** What was found holds only as long as the boxes are as they are. */
         void begin() {
             Arrays.fill(failing, UNKNOWN);
         }
 
-        int freeIn(int left) {
+        int freeIn(Pile pile, int left) {
             int set = 0;
             for (int b = 0; b < BOXES; b++) {
                 int rest = left & ~(1 << b);
@@ -940,9 +939,9 @@ public final class PileSteadier {
             return set;
         }
 
-        int findOrders() {
+        int findOrders(Pile pile) {
             begin();
-            findFree();
+            findFree(pile);
             orders[0] = 1;
             for (int left = 1; left <= pile.there; left++) {
                 orders[left] = 0;
@@ -950,25 +949,25 @@ public final class PileSteadier {
                     if (isIn(b, free[left])) orders[left] += orders[left & ~(1 << b)];
                 }
             }
-            findFirst();
+            findFirst(pile.there);
             return orders[pile.there];
         }
 
         /** Only sets that can be come by from all that are there are looked at. */
-        private void findFree() {
+        private void findFree(Pile pile) {
             Arrays.fill(free, UNKNOWN);
             free[pile.there] = 0;
             for (int left = pile.there; left > 0; left--) {
                 if (free[left] == UNKNOWN) continue;
-                free[left] = freeIn(left);
+                free[left] = freeIn(pile, left);
                 for (int b = 0; b < BOXES; b++) {
                     if (isIn(b, free[left])) free[left & ~(1 << b)] = 0;
                 }
             }
         }
 
-        private void findFirst() {
-            int left = pile.there;
+        private void findFirst(int all) {
+            int left = all;
             for (int k = 0; k < BOXES && orders[left] > 0; k++) {
                 for (int b = 0; b < BOXES; b++) {
                     if (left == 0 || !isIn(b, free[left]) || orders[left & ~(1 << b)] == 0) continue;

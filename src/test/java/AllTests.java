@@ -12,6 +12,7 @@ public final class AllTests {
         TextTest.run();
         ToldTest.run();
         SheetTest.run();
+        ModelTest.run();
         if (!Check.report()) System.exit(1);
     }
 }

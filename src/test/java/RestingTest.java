@@ -51,6 +51,8 @@ final class RestingTest {
         Check.due("9: the other way round", x.contact(0, 2), 0);
         Check.due("9: beside", x.contact(0, 1), 0);
         Check.due("9: with the floor", x.contact(0, PileSteadier.NONE), 4);
+        x.box(0, 4, 4, 341, 1);
+        Check.due("9: all its area", x.contact(3, PileSteadier.NONE), 12);
         Check.due("9: not on the floor", x.contact(2, PileSteadier.NONE), 0);
     }
 

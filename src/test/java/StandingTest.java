@@ -10,6 +10,7 @@ final class StandingTest {
         failsTellsCauses();
         causesOfLikeParts();
         tilts();
+        tiltsOffAnEdge();
         slides();
         most();
         mostBeyondALesserFall();
@@ -120,6 +121,27 @@ final class StandingTest {
         Check.due("17: with a load", loaded.tilt(2, 66), 0);
         Check.due("17: with a load, beyond", loaded.tilt(3, 67), 1);
         badTilts(x);
+    }
+
+    /** A centre on the edge along Y: a tilt to one side takes it in, to the other out. */
+    private static void tiltsOffAnEdge() {
+        for (int side = 0; side < 4; side++) {
+            PileSteadier x = new PileSteadier();
+            x.box(0, 1, 1, 111, 1);
+            // The upper box stands out of the lower one to the side that is asked.
+            int[] at = {1, 0, 1, 0};
+            x.box(0, side < 2 ? at[side] : 1, side < 2 ? 1 : at[side], side < 2 ? 211 : 121, 1);
+            Check.due("15: on the edge of side " + side, x.stands(3), 3);
+            Check.due("16: nobody on the edge fails", x.fails(0), PileSteadier.NONE);
+            Check.due("17: out by side " + side, x.tilt(side, 1), 2);
+            Check.due("17: in from side " + side, x.tilt(side ^ 1, 1), 0);
+            Check.due("18: out by side " + side, x.most(side), 0);
+            Check.due("19: on the edge, another one is free", x.box(0, 5, 5, 111, 1), 2);
+            Check.due("19: free", x.free() & 4, 4);
+            Check.due("22: on the edge", x.without(2), 0);
+            Check.due("23: on the edge", x.spot(111, 1, 0), 0);
+            Check.due("28: on the edge", x.tells(0, 12), 63);
+        }
     }
 
     private static void badTilts(PileSteadier x) {

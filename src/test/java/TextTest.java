@@ -4,6 +4,7 @@ final class TextTest {
 
     static void run() {
         feeds();
+        feedsInOrder();
         clauses();
         blanks();
         clausesInTurn();
@@ -39,6 +40,19 @@ final class TextTest {
     private static void dueText(String name, PileSteadier x, String text, int due) {
         Check.due("27: " + name, Scenes.say(x, text), due);
         Check.due("27: empty behind " + name, x.count(2), 0);
+    }
+
+    /** Only the first n of the five are fed, in their order. */
+    private static void feedsInOrder() {
+        PileSteadier x = new PileSteadier();
+        Check.due("26: two", x.feed(2, 'b', 'o', 'z', 'z', 'z'), 2);
+        Check.due("26: three", x.feed(3, 'x', ' ', '0', 'z', 'z'), 5);
+        Check.due("26: four", x.feed(4, ' ', '1', ' ', '2', 'z'), 9);
+        Check.due("26: five", x.feed(5, ' ', '1', '2', '3', ' '), 14);
+        Check.due("26: one, again", x.feed(1, '9', 'z', 'z', 'z', 'z'), 15);
+        Check.due("26: as fed", x.text(), 1);
+        Check.due("26: X as fed", x.of(0, 2), 1);
+        Check.due("26: size as fed", x.of(0, 5), 123);
     }
 
     private static void clauses() {
@@ -80,6 +94,8 @@ final class TextTest {
         PileSteadier x = new PileSteadier();
         dueText("no word of these", x, "on 0", -100);
         dueText("a longer word", x, "offs 0", -100);
+        dueText("a word with an a behind", x, "offa 0", -100);
+        dueText("a word with a z behind", x, "offz 0", -100);
         dueText("a shorter word", x, "of 0", -100);
         dueText("a great letter", x, "Off 0", -100);
         dueText("a number first", x, "0 off", -100);

@@ -123,7 +123,9 @@ final class ToldTest {
         Check.due("30: two", x.comes(0, 1, 1, 2), 2);
         int[] due = {3, 0, 5, 5, 0, 111, 9};
         for (int what = 0; what < due.length; what++) Check.due("30: of, " + what, x.of(1, what), due[what]);
-        Check.due("30: the first", x.of(0, 6), 30);
+        Check.due("30: X of the first", x.of(0, 2), 1);
+        Check.due("30: Y of the first", x.of(0, 3), 2);
+        Check.due("30: weight of the first", x.of(0, 6), 30);
         Check.due("30: none", x.comes(0, 1, 1, 0), 0);
         Check.due("30: the second alone", x.comes(0, 1, 6, 1), 1);
         Check.due("30: left out, then one", x.comes(0, 1, 0, 2), 0);
