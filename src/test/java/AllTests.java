@@ -12,6 +12,16 @@ public final class AllTests {
         TextTest.run();
         ToldTest.run();
         SheetTest.run();
+        BoxEdgesTest.run();
+        GoneTest.run();
+        RestEdgesTest.run();
+        StandEdgesTest.run();
+        DoorEdgesTest.run();
+        ThoughtEdgesTest.run();
+        TapeEdgesTest.run();
+        ToldEdgesTest.run();
+        SheetEdgesTest.run();
+        RefusalTest.run();
         ModelTest.run();
         if (!Check.report()) System.exit(1);
     }

@@ -1,8 +1,10 @@
 /** Long runs of calls on the class and on the slow model: every answer is the same. */
 final class ModelTest {
-    private static final int RUNS = 400, CALLS = 250;
+    /** An object answers 512 calls; a turn takes some 20 at most. */
+    private static final int RUNS = 400, TURNS = 250, CALLS = 512 - 30;
 
     private long drawn;
+    private int calls = 0;
 
     private ModelTest(long seed) {
         drawn = seed;
@@ -47,7 +49,7 @@ final class ModelTest {
         // Some runs keep to a corner, so that their piles are high.
         int spread = 2 + below(7);
         for (int i = 0; i < 3 + below(5); i++) comeBox(run, x, m, spread);
-        for (int i = 0; i < CALLS; i++) {
+        for (int i = 0; i < TURNS && calls < CALLS; i++) {
             int group = below(10);
             if (group < 2) change(run, x, m, spread);
             else if (group < 4) askOfBoxes(run, x, m);
@@ -56,7 +58,8 @@ final class ModelTest {
         }
     }
 
-    private static void same(int run, String call, long got, long due) {
+    private void same(int run, String call, long got, long due) {
+        calls++;
         Check.due("model run " + run + ": " + call, got, due);
     }
 
