@@ -22,6 +22,7 @@ public final class AllTests {
         ToldEdgesTest.run();
         SheetEdgesTest.run();
         RefusalTest.run();
+        LastCallTest.run();
         ModelTest.run();
         if (!Check.report()) System.exit(1);
     }

@@ -9,6 +9,7 @@ final class RestEdgesTest {
         whatOn();
         topIsZ();
         leastAndGreatestContacts();
+        topIsZButApart();
         sameOrOther();
         leftOverByNumbers();
         lesserAreaFirst();
@@ -16,6 +17,8 @@ final class RestEdgesTest {
         axesAndParts();
         leastAndGreatestCentres();
         whichCorner();
+        cornersOfSixContacts();
+        cornersWhateverTheNumbers();
         onCornersAndEdges();
         aHairBeyond();
     }
@@ -62,6 +65,25 @@ final class RestEdgesTest {
         Check.due("9: not with THE FLOOR", x.contact(1, -1), 0);
         Check.due("11: not to THE FLOOR", x.hands(1, -1), 0);
         Check.due("11: all to THE FLOOR", x.hands(0, -1), 3);
+    }
+
+    /** Two pillars of like TOP at all distances; what rests on the one has nothing in common with the other. */
+    private static void topIsZButApart() {
+        for (int at = 0; at < 49; at++) {
+            int x = at % 7, y = at / 7;
+            if (x >= 2 && x <= 4 && y >= 2 && y <= 4) continue;
+            PileSteadier p = new PileSteadier();
+            p.box(0, 3, 3, 223, 1);
+            p.box(0, x, y, 223, 1);
+            p.box(0, x, y, 221, 5);
+            String name = ", X " + x + ", Y " + y;
+            Check.due("9: no CONTACT" + name, p.contact(2, 0), 0);
+            Check.due("9: CONTACT" + name, p.contact(2, 1), 4);
+            Check.due("8: on one alone" + name, p.on(2, 0), 2);
+            Check.due("8: nothing on the other" + name, p.on(0, 1), 0);
+            Check.due("11: nothing" + name, p.hands(2, 0), 0);
+            Check.due("11: all" + name, p.hands(2, 1), 5);
+        }
     }
 
     private static void sameOrOther() {
@@ -188,6 +210,35 @@ final class RestEdgesTest {
         Check.due("13: of one cell, Y", x.corner(1, 2, 1), 3);
     }
 
+    private static void dueCorners(String name, PileSteadier x, int box, int[] due) {
+        Check.due("13: " + name + ", how many", x.corner(box, -1, 0), due.length / 2);
+        for (int i = 0; i < due.length; i++) Check.due("13: " + name + ", " + i, x.corner(box, i / 2, i % 2), due[i]);
+    }
+
+    /** As many CONTACTS as there can be: each of the six has a part in the polygon, the last one, too. */
+    private static void cornersOfSixContacts() {
+        PileSteadier x = new PileSteadier();
+        int[][] cells = {{2, 1}, {3, 2}, {2, 3}, {0, 1}, {0, 2}, {1, 0}};
+        for (int[] c : cells) x.box(0, c[0], c[1], 111, 1);
+        x.box(0, 0, 0, 441, 1);
+        Check.due("8: on six", x.on(6, 0), 63);
+        dueCorners("six", x, 6, new int[] {0, 1, 1, 0, 2, 0, 4, 2, 4, 3, 3, 4, 2, 4, 0, 3});
+    }
+
+    /** Four cells by all orders in which they can come: the same polygon, from the same corner on. */
+    private static void cornersWhateverTheNumbers() {
+        int[][] cells = {{0, 2}, {1, 0}, {3, 1}, {2, 3}};
+        for (int order = 0; order < 256; order++) {
+            int[] turn = {order % 4, order / 4 % 4, order / 16 % 4, order / 64};
+            if ((1 << turn[0] | 1 << turn[1] | 1 << turn[2] | 1 << turn[3]) != 15) continue;
+            PileSteadier x = new PileSteadier();
+            for (int t : turn) x.box(0, cells[t][0], cells[t][1], 111, 1);
+            x.box(0, 0, 0, 441, 1);
+            dueCorners("order " + order, x, 4, new int[] {0, 2, 1, 0, 2, 0, 4, 1, 4, 2, 3, 4, 2, 4, 0, 3});
+            Check.due("14: within, order " + order, x.lies(4), 2);
+        }
+    }
+
     /** A cell at 3, 3 bears one alone: its centre is within the cell, on its edge, on its corner, or outside. */
     private static void onCornersAndEdges() {
         int[][] due = {
@@ -222,6 +273,9 @@ final class RestEdgesTest {
             x.weigh(2, 1, 499);
             Check.due("14: held by 1 less, side " + side, x.lies(1), 0);
             Check.due("15: TIPS, side " + side, x.stands(2), 2);
+            x.kind(0, 0, 9);
+            Check.due("16: FAIL, side " + side, x.fails(0), 1);
+            Check.due("16: WHY, side " + side, x.fails(1), 3);
             x.weigh(2, 3, 167);
             Check.due("14: held by 1 more, side " + side, x.lies(1), 2);
             Check.due("15: TIPS no more, side " + side, x.stands(2), 0);

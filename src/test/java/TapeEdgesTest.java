@@ -209,7 +209,8 @@ final class TapeEdgesTest {
 
     private static void wordsAlmostRight() {
         String[] wrong = {"o", "of", "offf", "ofg", "oaf", "b", "bo", "boxx", "bix", "boxo", "k", "kin", "kindd", "kinds",
-            "kint", "w", "weig", "weighh", "weighs", "weigt", "boxoff", "offbox", "a", "z"};
+            "kint", "w", "weig", "weighh", "weighs", "weigt", "boxoff", "offbox", "a", "z",
+            "aff", "zff", "xff", "cox", "fox", "bind", "mind", "neigh", "xeigh", "ox", "ff", "ind", "eigh"};
         for (String word : wrong) {
             dueFault(word + " 0", 0);
             dueFault("off 0;" + word + " 0", 6);

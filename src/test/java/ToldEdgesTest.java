@@ -12,6 +12,7 @@ final class ToldEdgesTest {
         tellsOfFortyItems();
         tellsOddItems();
         tellsTheLastPlace();
+        kindsOfSeven();
         kindsByLoads();
         filmSheets();
         filmSizes();
@@ -25,6 +26,8 @@ final class ToldEdgesTest {
         imageBeforeThereIsOne();
         imagesOfNoneAndSeven();
         imageKeepsAllButSheetsAndTape();
+        nothingIsLeftOfWhatIsLaidBack();
+        nothingIsLeftOfAThought();
         countWhats();
     }
 
@@ -121,6 +124,13 @@ final class ToldEdgesTest {
         dueTold("the last is told twice", x, 0, 6, 1);
         x.put(0, 6, 7);
         dueTold("the last is none such", x, 0, 6, 1);
+    }
+
+    private static void kindsOfSeven() {
+        PileSteadier x = new PileSteadier();
+        for (int i = 0; i < 7; i++) x.box(0, i, i, 111, 1);
+        for (int box = 0; box < 7; box++) Check.due("28: KINDS of BOX " + box, x.tells(0, 10 + box), 63);
+        Check.due("28: there is no eighth", x.tells(0, 17), BAD);
     }
 
     /** FIGURE 1: GLASS bears 10, FRAGILE 20, DRUM 300, CRATE 700, HEAVY and SAFE 1400. */
@@ -358,6 +368,50 @@ final class ToldEdgesTest {
         Check.due("32: once more", x.back(), 4);
         Check.due("32: it is there again", x.stands(4), 15);
         Check.due("32: the tape stays empty", x.count(2), 0);
+    }
+
+    /** A number that is given anew has nothing of the one that had it ahead of back(). */
+    private static void nothingIsLeftOfWhatIsLaidBack() {
+        PileSteadier x = new PileSteadier();
+        x.box(0, 0, 0, 221, 9);
+        x.image();
+        x.box(5, 0, 0, 211, 7);
+        x.kind(1, 4, 9);
+        x.box(0, 0, 0, 111, 6);
+        Check.due("10: LOAD", x.load(0), 13);
+        x.back();
+        Check.due("10: none any more", x.load(0), 0);
+        Check.due("2: the next number", x.box(0, 3, 3, 111, 5), 1);
+        Check.due("2: FIGURE 0 at first", x.of(1, 1), 0);
+        Check.due("2: its KIND", x.of(1, 0), 0);
+        Check.due("8: on THE FLOOR", x.on(1, 0), 0);
+        Check.due("9: no CONTACT", x.contact(1, 0), 0);
+        Check.due("11: nothing handed down", x.hands(1, 0), 0);
+        Check.due("11: all to THE FLOOR", x.hands(1, -1), 5);
+        Check.due("10: no LOAD", x.load(1), 0);
+        Check.due("2: and the next", x.box(0, 5, 5, 111, 4), 2);
+        Check.due("11: nothing to 1", x.hands(2, 1), 0);
+        Check.due("8: nothing on 1", x.on(1, 1), 0);
+        Check.due("33: twos", x.count(4), 0);
+    }
+
+    /** spot() tries the next number everywhere; nothing of that is told when it truly comes. */
+    private static void nothingIsLeftOfAThought() {
+        PileSteadier x = new PileSteadier();
+        x.box(0, 7, 7, 111, 1);
+        x.box(0, 6, 7, 111, 1);
+        Check.due("23: everywhere", x.spot(111, 99, 1), 64);
+        Check.due("10: no LOAD", x.load(0), 0);
+        Check.due("2: beside them", x.box(0, 0, 0, 111, 3), 2);
+        for (int a = 0; a < 2; a++) {
+            Check.due("11: nothing handed down", x.hands(2, a), 0);
+            Check.due("9: no CONTACT", x.contact(2, a), 0);
+            Check.due("10: no LOAD", x.load(a), 0);
+        }
+        Check.due("28: KINDS", x.tells(0, 12), 63);
+        Check.due("3: truly a CRATE", x.of(2, 0), 0);
+        Check.due("22: without", x.without(0), 0);
+        Check.due("15: it is there", x.stands(4), 7);
     }
 
     private static void countWhats() {
