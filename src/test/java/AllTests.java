@@ -23,6 +23,7 @@ public final class AllTests {
         SheetEdgesTest.run();
         RefusalTest.run();
         LastCallTest.run();
+        ReadmeTest.run();
         ModelTest.run();
         if (!Check.report()) System.exit(1);
     }
